@@ -8,10 +8,18 @@ final class Due {
     }
 
     void due(String call, long got, long want) {
-        if (got != want) {
+        due(call, Long.toString(got), Long.toString(want));
+    }
+
+    void due(String call, String got, String want) {
+        if (!got.equals(want)) {
             wrong++;
             System.out.println(name + ": " + call + " answered " + got + ", due is " + want);
         }
+    }
+
+    int wrong() {
+        return wrong;
     }
 
     void end() {
