@@ -427,6 +427,8 @@ public final class Promises13To26Test {
         d.due("0 to 5", x.reach(0), 6);
         x.stop(3);
         d.due("3 stopped", x.reach(0), 3);
+        d.due("from 1", x.reach(1), 2);
+        d.due("2 has none but 3", x.reach(2), 1);
         d.due("behind it", x.reach(4), 2);
     }
 
@@ -577,7 +579,7 @@ public final class Promises13To26Test {
 
     @Says("All (SIZES, NODES, LETTERS, TALES, TIME, what is counted, which COIN is next; not COINS) is kept")
     static void p24KeptAreTheSizes(Due d) {
-        ViewBroadcast x = Net.walking(3, 3, 2);
+        ViewBroadcast x = Net.walking(3, 2, 2);
         x.sizes(2, 2);
         x.keep(0);
         x.walks(6, 0, 20);
@@ -593,7 +595,9 @@ public final class Promises13To26Test {
         x.node();
         Net.take(x, 0, 3);
         Net.must(x, 2, 0, 1);
-        d.due("SHORT 3", x.how(1, 3), 3);
+        d.due("SHORT is not 3", x.how(1, 3), 0);
+        Net.must(x, 2, 1, 2);
+        d.due("SHORT 2", x.how(2, 3), 3);
         x.back(0);
         x.sizes(3, 5);
         Net.triangle(x);
@@ -606,6 +610,57 @@ public final class Promises13To26Test {
         d.due("no CHOICE yet", Net.count(x, 11), 0);
         x.tick();
         d.due("WAIT 2", Net.count(x, 11), 1);
+    }
+
+    @Says("All (SIZES, NODES, LETTERS, TALES, TIME, what is counted, which COIN is next; not COINS) is kept")
+    static void p24KeptIsTheHourOfWhatIsMissed(Due d) {
+        ViewBroadcast x = missing();
+        x.tick();
+        x.tick();
+        x.keep(0);
+        for (int i = 0; i < 3; i++) {
+            x.tick();
+        }
+        d.due("1 was asked", x.missed(2, 1), 0);
+        x.back(0);
+        d.due("1 told, and is not asked yet", x.missed(2, 1), 1);
+        x.tick();
+        d.due("nor ahead of the hour", x.missed(2, 1), 1);
+        x.tick();
+        d.due("but at TIME and WAIT, 4", x.missed(2, 1), 0);
+    }
+
+    @Says("All (SIZES, NODES, LETTERS, TALES, TIME, what is counted, which COIN is next; not COINS) is kept")
+    static void p24KeptIsWhatANodeAsksAndAsked(Due d) {
+        ViewBroadcast x = mending(Net.of(16));
+        d.due("0 ASKS, ASKED", x.about(0, 1) * 100 + x.about(0, 2), 108);
+        x.keep(1);
+        Net.must(x, 5, 0, 1);
+        Net.must(x, 3, 1, 0);
+        d.due("0 ASKS none, forgot those ASKED", x.about(0, 1) * 100 + x.about(0, 2), -600);
+        x.back(1);
+        d.due("0 ASKS, ASKED as kept", x.about(0, 1) * 100 + x.about(0, 2), 108);
+        Net.must(x, 5, 0, 1);
+        d.due("the LETTER is there again", Net.has(x, 3, 1, 0) ? 1 : 0, 1);
+    }
+
+    /** 0: [9] | [1 2 3], MENDING: 3, which is full, REFUSED, 1 is ASKED. */
+    private static ViewBroadcast mending(ViewBroadcast x) {
+        Net.take(x, 9, 3, 1, 2, 0);
+        x.coin(2);
+        x.mix(9);
+        Net.must(x, 3, 9, 0);
+        while (!Net.has(x, 8, 0, 9)) {
+            Net.must(x, 7, 9, 0);
+        }
+        Net.take(x, 3, 4, 5, 6);
+        x.coin(0);
+        Net.take(x, 0, 7);
+        x.stop(7);
+        Net.must(x, 12, 7, 0);
+        Net.must(x, 5, 0, 3);
+        Net.must(x, 6, 3, 0);
+        return x;
     }
 
     /** A net with something of all: LIVE and stopped ones, LAZY ones, some ASKED, TALES HEARD and MISSED, LISTS. */
@@ -778,6 +833,63 @@ public final class Promises13To26Test {
         d.due("heard(3, 1)", x.heard(3, 1), -6);
     }
 
+    @Says("It is as it was kept there: how many NODES.")
+    static void p25NodesMadeAnewAfterBackHaveNothingOfThoseBefore(Due d) {
+        ViewBroadcast x = new ViewBroadcast();
+        String fresh = Net.picture(Net.of(16));
+        x.keep(0);
+        Net.with(x, 16);
+        x.keep(1);
+        for (int scene = 0; scene < 2; scene++) {
+            x.back(0);
+            Net.with(x, 16);
+            if (scene == 0) {
+                mending(x);
+                d.due("0 ASKS, ASKED", x.about(0, 1) * 100 + x.about(0, 2), 108);
+            } else {
+                missingTale0(x);
+                d.due("2 MISSES", x.about(2, 4), 1);
+            }
+            x.back(0);
+            Net.with(x, 16);
+            d.due("as fresh ones", x.differs(1), -6);
+            d.due("as fresh ones, but for COINS", withoutCoins(x), fresh.substring(fresh.indexOf(" even")));
+            x.tale(15);
+            d.due("0 does not MISS it", x.missed(0, 0) + x.about(0, 4), 0);
+        }
+    }
+
+    private static String withoutCoins(ViewBroadcast x) {
+        String all = Net.picture(x);
+        return all.substring(all.indexOf(" even"));
+    }
+
+    /** 0 to 3 have each other; 2 MISSES TALE 0, of which 1 told, since TALE 1 made them LAZY ahead of it. */
+    private static void missingTale0(ViewBroadcast x) {
+        for (int n = 1; n < 4; n++) {
+            x.join(n, 0);
+            x.go(50);
+        }
+        x.tale(0);
+        x.tale(3);
+        for (int[] pair : new int[][] {{3, 1}, {3, 2}, {1, 2}, {2, 1}, {0, 1}}) {
+            Net.must(x, 9, pair[0], pair[1]);
+        }
+        Net.must(x, 11, 1, 2);
+        Net.must(x, 10, 1, 2);
+    }
+
+    @Says("4 how many it MISSES")
+    static void p17AboutTale0Missed(Due d) {
+        ViewBroadcast x = Net.of(4);
+        missingTale0(x);
+        d.due("2 MISSES", x.about(2, 4), 1);
+        d.due("told of TALE 0", x.missed(2, 0), 1);
+        x.stop(1);
+        Net.must(x, 12, 1, 2);
+        d.due("told of TALE 0, 1 stopped", x.missed(2, 0), 0);
+    }
+
     // ---- 26 differs
 
     @Says("`int differs(int k)`: The first NODE whose views (in order, EAGER or LAZY), or what it HEARD, are other ones there")
@@ -807,6 +919,44 @@ public final class Promises13To26Test {
         x.back(0);
         Net.take(x, 0, 1, 2);
         d.due("in the same order", x.differs(1), -6);
+    }
+
+    @Says("The first NODE whose views (in order, EAGER or LAZY), or what it HEARD, are other ones there")
+    static void p26DiffersInTheFirstOfAView(Due d) {
+        for (int[] one : new int[][] {{1, 2}, {2, 1}}) {
+            ViewBroadcast x = Net.sized(2, 5, 6);
+            x.keep(0);
+            Net.take(x, 0, one[0], 3);
+            x.keep(1);
+            x.back(0);
+            Net.take(x, 0, one[1], 3);
+            d.due("ACTIVE, the first", x.differs(1), 0);
+            Net.take(x, 0, 4, 5);
+            x.keep(1);
+            x.back(0);
+            Net.take(x, 0, one[0], 3, 4, 5);
+            d.due("PASSIVE, the first", x.differs(1), 0);
+        }
+    }
+
+    @Says("The first NODE whose views (in order, EAGER or LAZY), or what it HEARD, are other ones there")
+    static void p26DiffersNotInOneThatWasLazyBeforeItLeft(Due d) {
+        ViewBroadcast x = Net.with(Net.triangle(), 2);
+        x.coin(1);
+        x.tale(0);
+        Net.must(x, 9, 0, 1);
+        Net.must(x, 9, 0, 2);
+        x.keep(0);
+        Net.must(x, 9, 2, 1);
+        d.due("LAZY", x.how(1, 2), 2);
+        Net.take(x, 1, 3, 4);
+        d.due("1 has", Net.active(x, 1) + " | " + Net.passive(x, 1), "0 3 4 | 2");
+        x.keep(1);
+        x.back(0);
+        d.due("EAGER", x.how(1, 2), 1);
+        Net.take(x, 1, 3, 4);
+        d.due("1 has", Net.active(x, 1) + " | " + Net.passive(x, 1), "0 3 4 | 2");
+        d.due("the same", x.differs(1), -6);
     }
 
     @Says("The first NODE whose views (in order, EAGER or LAZY), or what it HEARD, are other ones there")

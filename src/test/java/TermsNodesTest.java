@@ -625,6 +625,23 @@ public final class TermsNodesTest {
         d.due("LETTER 12 to 1", Net.has(x, 12, 0, 1) ? 1 : 0, 1);
     }
 
+    @Says("or ASKS it")
+    static void oneThatAsksAnotherIsNotToldOfTheStop(Due d) {
+        ViewBroadcast x = Net.sized(2, 5, 6);
+        x.coin(1);
+        Net.take(x, 4, 2);
+        Net.link(x, 4, 1);
+        Net.take(x, 4, 3);
+        Net.must(x, 4, 4, 1);
+        d.due("1 ASKS 4", x.about(1, 1), 4);
+        x.stop(0);
+        x.stop(3);
+        x.stop(5);
+        d.due("none to 1", Net.find(x, 12, 0, 1) + Net.find(x, 12, 3, 1) + Net.find(x, 12, 5, 1), -3);
+        x.stop(4);
+        d.due("LETTER 12 from 4", Net.has(x, 12, 4, 1) ? 1 : 0, 1);
+    }
+
     /** 0 (A 2) dropped 1, who has no other and ASKS it. */
     private static ViewBroadcast asking() {
         ViewBroadcast x = Net.sized(2, 5, 4);

@@ -450,6 +450,40 @@ public final class TermsTalesTest {
     }
 
     @Says("for each LIVE NODE, by numbers, each TALE that it MISSES whose hour is TIME at most")
+    static void aTickIsForNode0Too(Due d) {
+        ViewBroadcast x = waiting(1);
+        Net.triangle(x);
+        x.tale(1);
+        x.go(50);
+        x.tale(1);
+        Net.must(x, 9, 1, 2);
+        Net.must(x, 10, 2, 0);
+        int before = x.told(2);
+        x.tick();
+        d.due("CHOICE of 0", Net.row(x, before), "11 0>2 1 1");
+    }
+
+    @Says("for each LIVE NODE, by numbers, each TALE that it MISSES whose hour is TIME at most")
+    static void aTickIsForTale0Too(Due d) {
+        ViewBroadcast x = Net.with(waiting(1), 4);
+        for (int n = 1; n < 4; n++) {
+            x.join(n, 0);
+            x.go(50);
+        }
+        x.tale(0);
+        x.tale(3);
+        for (int[] pair : new int[][] {{3, 1}, {3, 2}, {1, 2}, {2, 1}, {0, 1}}) {
+            Net.must(x, 9, pair[0], pair[1]);
+        }
+        Net.must(x, 11, 1, 2);
+        Net.must(x, 10, 1, 2);
+        d.due("2 MISSES TALE 0", x.missed(2, 0), 1);
+        int before = x.told(2);
+        x.tick();
+        d.due("CHOICE", Net.row(x, before), "11 2>1 0 1");
+    }
+
+    @Says("for each LIVE NODE, by numbers, each TALE that it MISSES whose hour is TIME at most")
     static void aTickGoesThroughTheTalesByNumbers(Due d) {
         ViewBroadcast x = four(waiting(1));
         x.tale(1);

@@ -128,6 +128,10 @@ public final class TermsViewsTest {
         Net.take(x, 1, 0);
         d.due("ADDED 0", Net.active(x, 1), "2 0");
         d.due("1 ASKS none", x.about(1, 1), -6);
+        ViewBroadcast y = knowing();
+        makeMend(y, 7);
+        Net.take(y, 0, 1);
+        d.due("ADDED 1: 0 ASKS 3 still", y.about(0, 1), 3);
     }
 
     // ---- DROP and NOTE
@@ -447,6 +451,20 @@ public final class TermsViewsTest {
         d.due("PARTING, WELCOME", Net.row(x, before - 1), "4 2>4 0 0, 3 2>3 0 0");
     }
 
+    @Says("2 WALK (x the joiner, y steps): if x is r: nothing. If y is 0, or the ACTIVE view has one at most: ADD x, LETTER 3 to x")
+    static void walkEndsAtOneWithOneLinkThatIsNotTheSender(Due d) {
+        ViewBroadcast x = Net.sized(2, 5, 8);
+        Net.link(x, 1, 0);
+        Net.take(x, 1, 4, 5);
+        x.stop(4);
+        Net.must(x, 12, 4, 1);
+        Net.take(x, 0, 3);
+        d.due("1 has", Net.active(x, 1), "5");
+        Net.must(x, 2, 0, 1);
+        d.due("1 has", Net.active(x, 1), "5 3");
+        d.due("WELCOME", Net.letter(x, x.told(2) - 1), "3 1>3 0 0");
+    }
+
     @Says("(if x is there already: nothing)")
     static void walkOfOneThatIsThereEndsWithNothing(Due d) {
         ViewBroadcast x = Net.walking(1, 0, 4);
@@ -486,6 +504,10 @@ public final class TermsViewsTest {
             ViewBroadcast x = walkTo1(Net.walking(4, s, 4), 2);
             Net.must(x, 2, 0, 1);
             d.due("y 4, SHORT " + s, Net.passive(x, 1), s < 4 ? "" : "3");
+            Net.must(x, 3, 1, 2);
+            Net.take(x, 2, 5);
+            Net.must(x, 2, 1, 2);
+            d.due("y 3, SHORT " + s, Net.passive(x, 2), s == 3 ? "3" : "");
         }
     }
 
@@ -695,6 +717,21 @@ public final class TermsViewsTest {
         d.due("no LETTER", x.told(2), before - 1);
     }
 
+    @Says("6 REFUSAL: if s is the one ASKED: none is; it counts as ASKED; MEND.")
+    static void refusalOfAnotherThanTheOneAskedIsNothing(Due d) {
+        ViewBroadcast x = mending(refused());
+        Net.must(x, 5, 0, 1);
+        Net.take(x, 9, 1);
+        Net.must(x, 2, 9, 0);
+        d.due("0 ADDED 1", Net.active(x, 0) + " | " + Net.passive(x, 0), "9 1 | 2 3");
+        makeMend(x, 8);
+        d.due("0 ASKS 2", x.about(0, 1), 2);
+        Net.must(x, 6, 1, 0);
+        d.due("0 ASKS 2 still", x.about(0, 1), 2);
+        d.due("ASKED: 3 alone", x.about(0, 2), 8);
+        d.due("one ASKING", Net.count(x, 5), 1);
+    }
+
     // ---- LETTERS 7 and 8
 
     /** 1 is about to get a MIX of 0, y LONG, LIST 0; 1 has 0 and those that joined it. */
@@ -815,6 +852,19 @@ public final class TermsViewsTest {
         d.due("its length", x.letter(0, 5), 0);
     }
 
+    @Says("with as many of the PASSIVE view, DRAWN one by one, as LIST has, or all")
+    static void mixIsAnsweredWithNode0Too(Due d) {
+        ViewBroadcast x = Net.walking(1, 0, 4);
+        x.sizes(2, 5);
+        Net.with(x, 8);
+        Net.take(x, 1, 0, 4, 5);
+        Net.link(x, 7, 1);
+        d.due("1 has", Net.active(x, 1) + " | " + Net.passive(x, 1), "5 7 | 0 4");
+        d.due("mix(7)", x.mix(7), 1);
+        Net.must(x, 7, 7, 1);
+        d.due("MIXED", Net.letter(x, x.told(2) - 1), "8 1>7 0 0 [0]");
+    }
+
     @Says("then LIST is TAKEN.")
     static void mixIsAnsweredAheadOfTheTaking(Due d) {
         ViewBroadcast x = Net.walking(1, 0, 4);
@@ -904,7 +954,9 @@ public final class TermsViewsTest {
         ViewBroadcast x = knowing();
         makeMend(x, 7);
         makeMend(x, 8);
-        d.due("0 ASKS 3 still", x.about(0, 1), 3);
+        d.due("8 stopped: 0 ASKS 3 still", x.about(0, 1), 3);
+        makeMend(x, 1);
+        d.due("1 stopped: 0 ASKS 3 still", x.about(0, 1), 3);
         d.due("one ASKING", Net.count(x, 5), 1);
     }
 
@@ -993,6 +1045,18 @@ public final class TermsViewsTest {
         d.due("of 2", mixOf(2, 2, 2, 0, 1, 9), "1 2 | 11 12 : 7 0>1 0 4 [0 2 12 11] : 2");
         d.due("of 3", mixOf(2, 2, 3, 0, 1, 1, 9), "1 2 | 11 12 13 : 7 0>1 0 4 [0 2 12 13] : 3");
         d.due("of 5", mixOf(2, 2, 5, 0, 4, 3, 9), "1 2 | 11 12 13 14 15 : 7 0>1 0 4 [0 2 15 14] : 3");
+    }
+
+    @Says("up to 2 of the PASSIVE view, each DRAWN from those that are left, in order.")
+    static void mixBegunListsNode0Too(Due d) {
+        ViewBroadcast x = Net.sized(2, 5, 16);
+        Net.take(x, 15, 1, 0, 3, 2);
+        d.due("mix(15)", x.mix(15), 3);
+        d.due("of the PASSIVE view", Net.letter(x, x.told(2) - 1), "7 15>3 15 4 [15 2 1 0]");
+        ViewBroadcast y = Net.of(16);
+        Net.take(y, 15, 3, 0, 2);
+        d.due("mix(15)", y.mix(15), 3);
+        d.due("of the ACTIVE view", Net.letter(y, y.told(2) - 1), "7 15>3 15 4 [15 0 2]");
     }
 
     // ---- what no run of calls can bring about
