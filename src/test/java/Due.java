@@ -1,5 +1,7 @@
 /** Counts and prints the answers that are not as due. */
 final class Due {
+    private static final int MOST_PRINTED = 20;
+
     private final String name;
     private int wrong = 0;
 
@@ -14,7 +16,10 @@ final class Due {
     void due(String call, String got, String want) {
         if (!got.equals(want)) {
             wrong++;
-            System.out.println(name + ": " + call + " answered " + got + ", due is " + want);
+            // in a long run one fault draws many others after it
+            if (wrong <= MOST_PRINTED) {
+                System.out.println(name + ": " + call + " answered " + got + ", due is " + want);
+            }
         }
     }
 
